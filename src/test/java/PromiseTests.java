@@ -262,6 +262,7 @@ public final class PromiseTests {
         campTaken("\n \n", 0);
         campTaken("field6by6;odds16;boy a at 35 pride 30 soft 9 ears 9;boy b at 0 pride 1 soft 0 ears 0;quarrel a b grudge 99;quarrel b a grudge 0;", 2);
         campTaken("odds 0; field 0001 by 1; boy hannibal at 0 pride 1 ears 3;", 1);
+        campTaken("boy z at 0 pride 1;boy az at 0 pride 1;boy zaz at 0 pride 1; quarrel zaz az grudge 3;", 3);
         campTaken("boy abcdefgh at 0 pride 1;boy abcdefg at 0 pride 1;boy bcdefgh at 0 pride 1;", 3);
         x = new ForgiveCamp();
         camp(x, "boy a at 2 pride 4 ears 7;boy b at 2 pride 4 soft 6;");
@@ -448,6 +449,17 @@ public final class PromiseTests {
         due("MINUTE", x.told(5), 9999);
         x.boot(0, 3, 99);
         given("BREAKFAST beyond 9,999", x, x.breakfast(), 1);
+
+        x = new ForgiveCamp();
+        camp(x, "boy a at 0 pride 1 soft 0;boy b at 0 pride 30 soft 0;");
+        for (int i = 0; i < 10; i++) x.boot(0, 1, 5 * i);
+        given("ten that are over one by one", x, x.breakfast(), 47);
+        given("nine and a half", x, x.minute(46), 9);
+        given("ten", x, x.minute(1), 1);
+        x.dawn();
+        for (int i = 0; i < 10; i++) x.boot(0, 1, 5 * i);
+        given("ten at a stroke", x, x.minute(240), 10);
+        due("MINUTE", x.told(5), 240);
 
         promise = 17;
         x = four();
@@ -759,6 +771,7 @@ public final class PromiseTests {
         refused("none", x, x.fitsAt(1, 0, 2, 0), 6);
         promise = 49;
         refused("fewer than two", x, x.ask(1, 0, 1), 6);
+        edgesOfClues();
         x.tray(2, 0, 60);
         x.tray(3, 0, 0);
         clueRefused(x, 4, 0, 1, 1);
@@ -786,6 +799,38 @@ public final class PromiseTests {
         promise = 48;
         refused("what 2", x, x.fitsAt(1, 1, 0, 2), 1);
         refused("what -1", x, x.fitsAt(1, 0, 0, -1), 1);
+    }
+
+    /** At first the BOY a is UP behind two MINUTES more than his PRIDE, as the GRUDGE of his later QUARREL is 1. */
+    private static void edgesOfClues() {
+        ForgiveCamp x = new ForgiveCamp();
+        camp(x, "boy a at 0 pride 5 soft 0; boy b at 0 pride 30 soft 0; boy c at 0 pride 30; quarrel a b grudge 0; quarrel c a grudge 1;");
+        x.tray(0, 0, 4);
+        x.write(0, 0, 0);
+        int[][] edges = {{3, 1, 1}, {31, 29, 29}, {32, 30, 30}};
+        for (int[] e : edges) {
+            x.write(0, 1, e[0]);
+            promise = 47;
+            given("fits at an edge", x, x.fits(0, 0, 1), 1);
+            promise = 48;
+            given("the least at an edge", x, x.fitsAt(0, 0, 1, 0), e[1]);
+            given("the greatest at an edge", x, x.fitsAt(0, 0, 1, 1), e[2]);
+        }
+        x = new ForgiveCamp();
+        camp(x, "boy a at 0 pride 5 soft 0; boy b at 0 pride 29 soft 0; boy c at 0 pride 29 soft 0 ears 0; quarrel a b grudge 0;");
+        x.tray(0, 0, 2);
+        x.write(0, 0, 1);
+        x.write(0, 1, 30);
+        promise = 47;
+        given("29 and 30", x, x.fits(0, 0, 1), 2);
+        promise = 49;
+        given("two fit, none parts them", x, x.ask(0, 0, 1), 0);
+        x.boot(2, 0, 0);
+        given("the other one as soon, none parts them", x, x.ask(0, 0, 1), 0);
+        x.teach(2, 1, 30);
+        given("the first and the third part them", x, x.ask(0, 0, 1), 0);
+        promise = 47;
+        given("29 and 30 still", x, x.fits(0, 0, 1), 2);
     }
 
     private static void clueRefused(ForgiveCamp x, int boy, int tray, int n, int status) {
@@ -847,6 +892,9 @@ public final class PromiseTests {
         given("the only one", two, two.moveOf(1), 0);
         two.forgive(0);
         refused("nothing", two, two.moveOf(3), 6);
+        camp(two, "boy a at 0 pride 9;boy b at 0 pride 9;boy c at 11 pride 9;boy d at 11 pride 9;"
+            + "quarrel a b grudge 9; quarrel c d grudge 9;");
+        given("nothing is as good, but comes last", two, two.moveOf(1), 0);
         promise = 52;
         camp(two, "boy a at 0 pride 30;boy b at 0 pride 30;boy c at 11 pride 30;boy d at 11 pride 30;"
             + "quarrel a b grudge 95; quarrel c d grudge 95;");
@@ -935,6 +983,9 @@ public final class PromiseTests {
         lives("yield ben; loop 9; quarrel al dan 3; end; dawn; quarrel al dan 3;", 0, 13, 1, 0, 0, 9, 0);
         lives("when open = 2; when open < 3; when open > 1; any; end; end; end; when now = 0; minute 1; end;", 0, 6, 0, 1, 0, 1, 0);
         lives("when open = 1; dawn; end; when open < 2; dawn; end; when open > 2; dawn; end; when now > 0; dawn; end;", 0, 4, 0, 0, 0, 0, 0);
+        lives("dawn; minute 1; dawn; dawn;", 0, 4, 2, 1, 0, 0, 0);
+        lives("yield al; yield al; dawn; minute 1; dawn;", 0, 5, 1, 1, 0, 0, 0);
+        lives("loop 99; minute 60; minute 40; end; minute 60; minute 40; minute 39; minute 1;", 0, 203, 2, 9999, 2, 0, 0);
         lives("loop 99; minute 60; minute 60; end;", 0, 199, 32, 9960, 2, 0, 0);
         x = four();
         refused("none was", x, x.lived(0), 6);
