@@ -82,11 +82,24 @@ public final class LanguageTests {
         }
     }
 
+    private static void sizes(Class<?> type) {
+        int fields = 0;
+        for (java.lang.reflect.Field f : type.getDeclaredFields()) {
+            if (!java.lang.reflect.Modifier.isStatic(f.getModifiers())) fields++;
+        }
+        need(fields <= 20, type + " has " + fields + " fields");
+        for (java.lang.reflect.Method m : type.getDeclaredMethods()) {
+            need(m.getParameterCount() <= 7, m + " takes more than seven");
+        }
+    }
+
     public static void main(String[] args) throws IOException {
         String source = Files.readString(SOURCE);
         words(withoutCommentsAndTexts(source));
         lengths(source);
         face();
+        sizes(ForgiveCamp.class);
+        for (Class<?> c : ForgiveCamp.class.getDeclaredClasses()) sizes(c);
         if (wrong > 0) System.exit(1);
         System.out.println("LanguageTests: all is as due");
     }
